@@ -34,7 +34,9 @@ public final class PromisesTest {
         promises18And19Listener();
         promise18LeafIsNotInPath();
         promise19SecretsNeedTheOneBefore();
+        promises18And19LastNumbers();
         promise20Count();
+        theOtherEndOfTheTree();
         theExampleOfTheReadme();
         due.end("PromisesTest");
     }
@@ -698,6 +700,55 @@ public final class PromisesTest {
         due.is("19: epoch 0", founder.secretHeard(0), true);
         founder.commit(3);
         due.is("19: the new leaf shuts the listener out", founder.secretHeard(1), false);
+    }
+
+    private static void promises18And19LastNumbers() {
+        KeyTreeGroup keys = groupShortOfKeys(1);
+        keys.publish(8);
+        due.is("9: leak of the last key", keys.leak(8), 1);
+        due.is("18: the last key", keys.keyHeard(120), true);
+        due.is("18: the one before", keys.keyHeard(119), false);
+        due.is("20: one key", keys.count(4), 1);
+        KeyTreeGroup epochs = groupOf(2);
+        while (epochs.commit(0) > 0) {
+            due.is("19: not yet", epochs.secretHeard(epochs.count(0)), false);
+        }
+        due.is("9: leak", epochs.leak(0), 4);
+        due.is("19: the last epoch", epochs.secretHeard(20), true);
+        due.is("19: the one before", epochs.secretHeard(19), false);
+
+        KeyTreeGroup meeting = groupOf(2);
+        meeting.publish(5);
+        meeting.leak(5);
+        meeting.add(5);
+        meeting.commit(0);
+        // leaf 10: 7; leaf 8: 8; nodes 4, 2, 1: 9 10 11; they meet at node 2
+        due.is("18: the lowest node of the path above it", meeting.keyHeard(10), true);
+        due.is("18: the next", meeting.keyHeard(11), true);
+        due.is("18: none below", meeting.keyHeard(9), false);
+    }
+
+    private static void theOtherEndOfTheTree() {
+        KeyTreeGroup x = groupOf(8);
+        due.is("7: the last leaf commits", x.commit(7), 2);
+        due.is("13: the last node", x.key(2, 15), 13);
+        due.is("13: and above it", x.key(2, 7), 14);
+        due.is("5: a leaf below 0", x.remove(-1), REFUSED);
+        due.is("5: a leaf above 7", x.remove(8), REFUSED);
+        due.is("20: no proposal of that", x.count(2), 0);
+        x.publish(8);
+        x.remove(0);
+        x.add(8);
+        due.is("7: commit", x.commit(7), 3);
+        due.is("12: leaf 0 is given again", x.leaf(8), 0);
+        // 14; 12 and 13; 9, 10 and 11 but not 8, which is added; a welcome
+        due.is("16: sent", x.sent(3), 8);
+        due.is("7: leaf 0 commits", x.commit(8), 4);
+        due.is("13: the last node stays", x.key(4, 15), 18);
+        due.is("13: the first leaf", x.key(4, 8), 22);
+        due.is("13: the root", x.key(4, 1), 25);
+        due.is("8: the founder goes on", x.process(0), 2);
+        due.is("8: the founder is OUT", x.process(0), OUT);
     }
 
     private static void promise20Count() {
