@@ -26,6 +26,7 @@ public final class EdgesTest {
         processOneByOne();
         processToOut();
         processOfOneThatGotARemovedLeaf();
+        processOfSeveralRemoved();
         leakCountsBeforeItGrows();
         leakOfEachState();
         holdsByState();
@@ -34,6 +35,8 @@ public final class EdgesTest {
         sentNothing();
         sentAtMost();
         sentNotToTheAdded();
+        welcomeToEachAdded();
+        welcomeWhereThePathsMeet();
         listenerAtFirst();
         listenerBeforeAndAfterTheMessage();
         listenerPathFromBelow();
@@ -242,6 +245,13 @@ public final class EdgesTest {
                 + "process(1)=REFUSED commit(0)=4 process(1)=4 state(1)=MEMBER");
     }
 
+    private static void processOfSeveralRemoved() {
+        is("8: all leaves removed by one commit", Stages.groupOf(8) + forEach(0, 6, "remove($N)=$M") + "commit(7)=2 count(6)=1 count(3)=8 "
+                + forEach(0, 6, "process($N)=OUT state($N)=OUT") + "count(3)=1 process(7)=REFUSED state(7)=MEMBER");
+        is("8: only the leaves that were removed", Stages.groupOf(8) + "remove(2) remove(5) commit(0)=2 "
+                + "process(1)=2 process(2)=OUT process(3)=2 process(4)=2 process(5)=OUT process(6)=2 process(7)=2");
+    }
+
     private static void leakCountsBeforeItGrows() {
         is("9: how many KEYS of these it did not have before", Stages.groupOf(2) + "commit(0) commit(0) leak(1)=4 count(4)=10 leak(1)=0 "
                 + "count(4)=10 leak(0)=1 count(4)=11 leak(0)=0");
@@ -314,6 +324,33 @@ public final class EdgesTest {
         is("16: beside the committer's leaf", Stages.FOUNDED + "publish(1) add(1) commit(0)=1 sent(1)=2 commit(0)=2 sent(2)=1 commit(1)=STALE "
                 + "process(1) commit(1)=3 sent(3)=1");
         is("16: a removed leaf gets none", Stages.groupOf(4) + "remove(2) commit(0)=2 sent(2)=2 commit(0)=3 sent(3)=2");
+    }
+
+    /** The listener has the key of one added person only, from before the commit. */
+    private static void welcomeToEachAdded() {
+        for (int leaked = 1; leaked <= 7; leaked++) {
+            String run = Stages.FOUNDED + forEach(1, 7, "publish($N)=$M") + "leak(" + leaked + ")=1 " + forEach(1, 7, "add($N)=$N");
+            is("for each person added, the SECRET", run + "commit(0)=1 sent(1)=14 secretHeard(1)=true secretHeard(0)=false count(5)=1 "
+                    + "keyHeard(12)=true keyHeard(9)=false");
+        }
+        is("not to one that is not added", Stages.FOUNDED + "publish(1) publish(2) leak(2)=1 add(1) commit(0)=1 count(4)=1 count(5)=0");
+    }
+
+    /** Leaf a of eight is removed and given to person 8, whose key the listener has; leaf c commits and makes 14 .. 17. */
+    private static void welcomeWhereThePathsMeet() {
+        for (int c = 0; c <= 7; c++) {
+            for (int a = 0; a <= 7; a++) {
+                if (a != c) {
+                    StringBuilder run = new StringBuilder(Stages.groupOf(8)
+                            + String.format("publish(8)=13 leak(8)=1 remove(%d) add(8) commit(%d)=2 leaf(8)=%d keyHeard(14)=false ", a, c, a));
+                    for (int up = 1; up <= 3; up++) {
+                        boolean above = (8 + c) >> up == (8 + a) >> up;
+                        run.append(String.format("key(2, %d)=%d keyHeard(%d)=%b ", (8 + c) >> up, 14 + up, 14 + up, above));
+                    }
+                    is("the lowest node of the PATH that lies ABOVE its leaf", run.toString());
+                }
+            }
+        }
     }
 
     private static void listenerAtFirst() {

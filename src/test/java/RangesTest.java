@@ -7,14 +7,16 @@
  */
 public final class RangesTest {
     private static final String[] STAGES = {
-        "", "publish(0) publish(9) ", Stages.FOUNDED, Stages.BUSY, Stages.ALL_FULL};
+        "", "publish(0) publish(9) ", Stages.FOUNDED, Stages.NO_BLANK_NODE, Stages.BUSY, Stages.ALL_FULL};
 
     /** Some would be in range if they were cut to a byte, taken modulo or shifted by. */
     private static final int[] NO_PERSONS = {
         -1, 10, -2, 11, -9, -10, 16, 20, 32, 256, 65536 + 1, 0x40000000,
         Integer.MIN_VALUE, Integer.MIN_VALUE + 1, Integer.MAX_VALUE, Integer.MAX_VALUE - 1};
+
+    /** Of -7 .. -1, 8 + l is a node above the leaves. */
     private static final int[] NO_LEAVES = {
-        -1, 8, -2, 9, -8, 15, 16, 32, 33, -31, 256, 65536 + 1, 0x40000000,
+        -1, 8, -2, -3, -4, -5, -6, -7, -8, 9, 15, 16, 32, 33, -31, 256, 65536 + 1, 0x40000000,
         Integer.MIN_VALUE, Integer.MIN_VALUE + 1, Integer.MAX_VALUE, Integer.MAX_VALUE - 1};
     private static final int[] NO_NODES = {
         0, 16, -1, 17, -8, 24, 32, 256 + 8, 65536 + 8,
@@ -133,6 +135,13 @@ public final class RangesTest {
             run.append(String.format("resolution(2, %d, 0)=%d ", node, first));
         }
         is("node 1 .. 15", run.toString());
+        int[] full = {24, 15, 23, 10, 14, 18, 22, 9, 2, 13, 4, 17, 6, 21, 8};
+        run = new StringBuilder(Stages.NO_BLANK_NODE + "count(1)=24 ");
+        for (int node = 1; node <= 15; node++) {
+            run.append(String.format("key(4, %d)=%d unmerged(4, %d)=0 ", node, full[node - 1], node));
+            run.append(String.format("resolution(4, %d, -1)=1 resolution(4, %d, 0)=%d ", node, node, node));
+        }
+        is("node 1 .. 15, none BLANK", run.toString());
     }
 
     private static int firstLeafBelow(int node) {
@@ -144,7 +153,7 @@ public final class RangesTest {
     }
 
     private static void epochsOutOfRange() {
-        int[] newest = {-1, -1, 0, 3, 20};
+        int[] newest = {-1, -1, 0, 4, 3, 20};
         for (int s = 0; s < STAGES.length; s++) {
             is("the NEWEST EPOCH", STAGES[s] + "count(0)=" + newest[s]);
             for (int epoch : NEVER_EPOCHS) {

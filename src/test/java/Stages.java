@@ -20,6 +20,10 @@ final class Stages {
             + "publish(6) add(6) remove(4) leak(3) commit(0)=3 process(2)=3 "
             + "publish(7) publish(8) add(8)=1 update(2) remove(1)=3 ";
 
+    /** A group of eight at epoch 4 in whose tree no node is BLANK; 24 keys made; only person 6 has come to it. */
+    static final String NO_BLANK_NODE = groupOf(8)
+            + "commit(2)=2 process(4)=2 commit(4)=3 process(6)=2 process(6)=3 commit(6)=4 ";
+
     private Stages() { }
 
     /** Persons 0 .. size - 1 at the leaves 0 .. size - 1, all at epoch 1; size + 4 keys made. */
