@@ -4,7 +4,9 @@ import java.lang.reflect.Method;
 import java.lang.reflect.Modifier;
 import java.nio.file.Files;
 import java.nio.file.Path;
+import java.util.ArrayList;
 import java.util.Arrays;
+import java.util.List;
 import java.util.Set;
 import java.util.TreeSet;
 import java.util.regex.Matcher;
@@ -39,6 +41,7 @@ public final class FaceTest {
         is("the constants " + constants(), constants().equals(CONSTANTS));
         privateNames();
         nestedClasses();
+        sizes();
         text();
         System.out.println("FaceTest: " + wrong + " not as due");
         if (wrong != 0) {
@@ -100,8 +103,31 @@ public final class FaceTest {
         }
     }
 
+    /** Rule 11 of the language. */
+    private static void sizes() throws IOException {
+        List<Class<?>> all = new ArrayList<>(List.of(KeyTreeGroup.class.getDeclaredClasses()));
+        all.add(KeyTreeGroup.class);
+        is("at most twelve classes", all.size() <= 12);
+        for (Class<?> c : all) {
+            long fields = Arrays.stream(c.getDeclaredFields()).filter(f -> !Modifier.isStatic(f.getModifiers())).count();
+            is(c.getName() + " has at most twenty fields", fields <= 20);
+            for (Method m : c.getDeclaredMethods()) {
+                is(m + " takes at most seven parameters", m.getParameterCount() <= 7);
+            }
+        }
+        Matcher method = Pattern.compile("(?ms)^( +)[^\n]*\\) \\{\n.*?^\\1\\}$").matcher(code());
+        while (method.find()) {
+            String body = method.group();
+            is("at most sixty lines: " + body.lines().findFirst().orElse(""), body.lines().count() <= 60);
+        }
+    }
+
+    private static String code() throws IOException {
+        return Files.readString(Path.of(SOURCE)).replaceAll("(?s)/\\*.*?\\*/|//[^\n]*", "");
+    }
+
     private static void text() throws IOException {
-        String code = Files.readString(Path.of(SOURCE)).replaceAll("(?s)/\\*.*?\\*/|//[^\n]*", "");
+        String code = code();
         Matcher found = Pattern.compile(FORBIDDEN).matcher(code);
         while (found.find()) {
             is("the text is without '" + found.group() + "'", false);

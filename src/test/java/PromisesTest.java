@@ -37,7 +37,6 @@ public final class PromisesTest {
         promises18And19LastNumbers();
         promise20Count();
         theOtherEndOfTheTree();
-        theExampleOfTheReadme();
         due.end("PromisesTest");
     }
 
@@ -774,20 +773,5 @@ public final class PromisesTest {
         for (int what : others) {
             due.is("20: count " + what, x.count(what), -2);
         }
-    }
-
-    private static void theExampleOfTheReadme() {
-        KeyTreeGroup x = new KeyTreeGroup();
-        due.is("README: found", x.found(0), 1);
-        due.is("README: publish", x.publish(1), 2);
-        due.is("README: add", x.add(1), 1);
-        due.is("README: commit", x.commit(0), 1);
-        due.is("README: sent", x.sent(1), 2);
-        due.is("README: leak", x.leak(1), 4);
-        due.is("README: secretHeard", x.secretHeard(1), true);
-        due.is("README: update", x.update(1), 7);
-        due.is("README: commit", x.commit(0), 2);
-        due.is("README: secretHeard", x.secretHeard(2), false);
-        due.is("README: process", x.process(1), 2);
     }
 }
